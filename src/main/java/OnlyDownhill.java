@@ -1136,7 +1136,7 @@ public final class OnlyDownhill {
                     boolean happens = tenths >= 10;
                     if (tenths > 0 && tenths < 10) {
                         z = z * 1664525 + 1013904223;
-                        happens = (z & Integer.MAX_VALUE) / 256 % 10 < tenths;
+                        happens = (z & 0x7fffffff) / 256 % 10 < tenths;
                     }
                     goes = happens != chanceIsStall[k];
                 }

@@ -9,6 +9,8 @@ public final class AgainstNaiveTest {
         "bestLikely", "bestWorth", "sure", "bestDriver", "leftOut", "runOn", "push", "hill", "mend", "mendFrom",
         "onFoot", "onTheWay", "judge", "lots", "count"};
 
+    private static final int[] EXTREMES = {Integer.MIN_VALUE, Integer.MAX_VALUE, -1, 1 << 30, -(1 << 30), 64, 1000};
+
     private final Random random;
     private final Caller caller = new Caller();
     private final NaiveTown naive = new NaiveTown();
@@ -185,6 +187,9 @@ public final class AgainstNaiveTest {
             case "lots": a[0] = below(23) - 1; a[1] = random.nextInt(); break;
             case "count": a[0] = below(20) - 1; break;
             default:
+        }
+        if (a.length > 0 && oneIn(30)) {
+            a[below(a.length)] = EXTREMES[below(EXTREMES.length)];
         }
         ask(name, a);
     }

@@ -291,6 +291,9 @@ public final class PromisesTest {
         even.due("safe 0 3 0", -9);
         even.due("safe 3 0 1", -9);
         even.due("count 11", 0);
+        PromisesTest overHome = new PromisesTest(8, "pp50;pp50;pp50;w01050;w02070;");
+        overHome.due("leg 1 2 0", 12);
+        overHome.due("safe 2 1 0", 12);
 
         PromisesTest y = new PromisesTest(9, TOWN);
         y.due("safe 0 5 0", 36);
@@ -380,6 +383,10 @@ public final class PromisesTest {
         x.rowOf(0, 7, 0, 9);
         x.due("day 1", 1);
         x.due("day 0", 17);
+        PromisesTest twice = new PromisesTest(10, "pp50;pp50;w01050;e10510999;");
+        twice.rowOf(0, 0);
+        twice.due("day 0", 15);
+        twice.dueFraction("worth", 10, 1);
         x.rowOf();
         x.due("day 0", 0);
         x.due("day 1", 0);
@@ -433,6 +440,10 @@ public final class PromisesTest {
             x.dueFraction("bestLikely " + by, likely[by][0], likely[by][1]);
             x.dueFraction("bestWorth " + by, by == 2 ? 76 : 60, 1);
         }
+        x.due("day 0", 0);
+        x.due("bestLikely 2 1", 10);
+        x.due("day 0", 0);
+        x.due("bestWorth 2 0", 76);
         // For a SLOPER, who leaves out the flat one, both orders are as good: the first by numbers.
         x.due("set 2 4", 0);
         x.due("best 0 0", 0);
@@ -466,6 +477,10 @@ public final class PromisesTest {
         x.due("set 2 4", 1);
         x.due("sure", 1);
         x.rowOf(1);
+        x.due("sure", 1);
+        x.due("set 2 0", 4);
+        x.rowOf(3, 1);
+        x.due("day 1", 10);
         x.due("sure", 1);
     }
 
@@ -548,6 +563,10 @@ public final class PromisesTest {
         PromisesTest even = new PromisesTest(21, "pp20;pp20;w01010;e10100999;e00110999;");
         even.rowOf(0, 1);
         even.due("push", 0);
+        // One more is 4 for 2 at HOME, but 9 for 4 at PLACE 1; two more would be 6 and 10.
+        PromisesTest one = new PromisesTest(21, "pp10;pn50;w01010;e10100999;e00110999;");
+        one.rowOf(0, 1);
+        one.due("push", 1);
     }
 
     private static void hillAndMend() {
@@ -583,6 +602,10 @@ public final class PromisesTest {
         x.dueFraction("hill", -6, 5);
         x.due("mend 0 1", 0);
         x.due("mendFrom 0", -9);
+        // A PUSHER with none who push.
+        x.due("set 2 3", 1);
+        x.dueFraction("hill", 14, 5);
+        x.due("mendFrom 14", 5);
         // At an ERRAND at HOME, too: 10 + 10, for 0.6 * 10 + 0.36 * 10.
         PromisesTest y = new PromisesTest(22, "pp30;pp20;w01050;e00110999;e10110999;e10110999;");
         y.rowOf(0, 1);
@@ -621,6 +644,17 @@ public final class PromisesTest {
         apart.due("onFoot 0 2 0", -9);
         apart.due("onFoot 2 3 0", -9);
         apart.due("onFoot 2 3 1", -9);
+        PromisesTest far = new PromisesTest(25, "pp50;pp50;pp50;w01600;");
+        far.due("onFoot 1 2 0", -9);
+        far.due("onFoot 2 1 1", -9);
+        // On foot the LIGHTS do not count: LEGS, not SAFE.
+        PromisesTest lights = new PromisesTest(25, "pp40;pp50;pp40;w01019;w02010;w21010;");
+        lights.due("onFoot 0 0 1", 20);
+        lights.due("onFoot 0 1 1", 10);
+        lights.due("onFoot 1 0 1", 10);
+        lights.due("onTheWay 1 0 1", 1);
+        lights.due("onTheWay 0 0 1", 1);
+        lights.due("onTheWay 2 0 1", 0);
 
         PromisesTest y = new PromisesTest(26, TOWN);
         y.due("onTheWay 1 0 2", 1);
@@ -711,6 +745,15 @@ public final class PromisesTest {
         x.due("slope 0 9", 0);
         x.rowOf();
         x.due("lots 20 7", 20);
+        // No DRAW for STALLS 0, from 7: 7 | 5 6 | 0 7 | 7 | 5 6 | 4 5 | 2 1, HOME
+        PromisesTest noLights = new PromisesTest(30, "pp30;pp20;w01050;e10510100;");
+        noLights.rowOf(0);
+        noLights.due("lots 6 7", 0);
+        noLights.due("lots 7 7", 1);
+        // STARTS 1, from 7: 7 | 5 | 6 | 0, HOME
+        PromisesTest hardly = new PromisesTest(30, "pb00;");
+        hardly.due("lots 3 7", 0);
+        hardly.due("lots 4 7", 1);
     }
 
     private static void imageAndOn() {
@@ -747,6 +790,10 @@ public final class PromisesTest {
         x.due("day 1", 0);
         x.due("on", 6);
         x.due("image", 6);
+        x.fault("w13010;", 1);
+        x.due("leg 1 3 0", 1);
+        x.due("on", 6);
+        x.due("leg 1 3 0", 18);
 
         PromisesTest y = new PromisesTest(32);
         y.due("on", -3);
