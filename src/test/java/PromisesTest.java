@@ -84,6 +84,7 @@ public final class PromisesTest {
         lots();
         imageAndOn();
         count();
+        fullTown();
         System.out.println(asked + " answers looked at, " + wrong + " are not as due");
         if (wrong != 0) {
             System.exit(1);
@@ -827,5 +828,41 @@ public final class PromisesTest {
         for (int i = 0; i < refusals.length; i++) {
             x.due("count " + (11 + i), refusals[i]);
         }
+    }
+
+    /** Every row filled to its end: eight PLACES on a line, fourteen WAYS, five ERRANDS, ten numbers. */
+    private static void fullTown() {
+        PromisesTest x = new PromisesTest(10, "pp50;pp50;pp50;pp50;pp50;pp50;pp50;pp50;",
+            "w01010;w12010;w23010;w34010;w45010;w56010;w67010;w02090;w03090;w04090;w05090;w06090;w07090;",
+            "w13090;e10110999;e20110999;e30110999;e40110999;e50110999;");
+        x.rowOf(0, 1, 2, 3, 4, 0, 1, 2, 3, 4);
+        x.due("day 0", 15);
+        x.due("day 1", 31);
+        x.dueFraction("likely", 1, 1);
+        x.dueFraction("worth", 50, 1);
+        for (int by = 0; by < 3; by++) {
+            for (int i = 0; i < 5; i++) {
+                x.due("best " + by + " " + i, i);
+            }
+            x.due("bestMinutes " + by, 15);
+        }
+        x.due("sure", 31);
+        x.due("bestDriver", 0);
+        x.due("leftOut", -9);
+        x.due("runOn", 0);
+        x.due("push", -9);
+        x.dueFraction("hill", 0, 1);
+        x.due("mend 0 1", 1);
+        x.due("mend 1 99", 0);
+        x.due("mendFrom 1", -9);
+        x.due("leg 0 7 0", 7);
+        x.due("onFoot 7 7 0", 7);
+        x.due("onTheWay 6 7 5", 1);
+        x.due("judge", 5);
+        x.due("lots 20 3", 20);
+        x.due("count 6", 50);
+        x.fault("w12010;", -2000);
+        x.due("image", 8);
+        x.due("on", 8);
     }
 }
