@@ -1,6 +1,7 @@
 import java.nio.charset.StandardCharsets;
 import java.nio.file.Files;
 import java.nio.file.Path;
+import java.util.Arrays;
 
 /** Sentence by sentence, the edges that the document names; and that no sentence of it was left out. */
 public final class BoundaryTest {
@@ -55,7 +56,7 @@ public final class BoundaryTest {
                 About.noteWrong("section " + promise + " of the document does not say: " + quote);
             }
             while (at >= 0) {
-                java.util.Arrays.fill(covered, at, at + quote.length(), true);
+                Arrays.fill(covered, at, at + quote.length(), true);
                 at = section.indexOf(quote, at + 1);
             }
         }

@@ -1,3 +1,5 @@
+import java.util.Arrays;
+
 /** The edges of days, of what is asked about them, and of the IMAGE: the second half of "Terms". */
 final class DayBoundaries {
     private static final String EIGHT = "pp50;".repeat(8);
@@ -346,6 +348,13 @@ final class DayBoundaries {
         About all = terms(sentence, "pp50;", "e00110999;".repeat(5));
         all.rowOf(4, 3, 2, 1, 0);
         dueDay(all, 5, 31, 0);
+        // Numbers of none take no room from the five.
+        all.rowOf(5, 6, 7, 8, 9, 0, 1, 2, 3, 4);
+        dueDay(all, 5, 31, 0);
+        all.rowOf(5, 0, 1, 2, 3, 4);
+        dueDay(all, 5, 31, 0);
+        all.rowOf(0, 0, 1, 1, 2, 2, 3, 3, 4, 4);
+        dueDay(all, 5, 31, 0);
     }
 
     private static void best() {
@@ -374,6 +383,7 @@ final class DayBoundaries {
         // The ROW does not matter.
         last.rowOf(0);
         last.due("bestMinutes 2", 50);
+        everyOrderIsLookedAt(sentence);
         About none = terms(sentence, "pp30;");
         none.due("best 0 0", -1);
         for (int by = 0; by <= 2; by++) {
@@ -397,6 +407,24 @@ final class DayBoundaries {
         likely.due("bestMinutes 2", 8);
     }
 
+    /** Each of the 120 orders is once the only one in which all are in time. */
+    private static void everyOrderIsLookedAt(String sentence) {
+        for (int code = 0; code < 3125; code++) {
+            int[] order = {code / 625, code / 125 % 5, code / 25 % 5, code / 5 % 5, code % 5};
+            String[] errands = new String[5];
+            for (int i = 0; i < 5; i++) {
+                errands[order[i]] = "e010100" + i + "0;";
+            }
+            if (!Arrays.asList(errands).contains(null)) {
+                About x = terms(sentence, "pp50;", String.join("", errands));
+                for (int i = 0; i < 5; i++) {
+                    x.due("best 2 " + i, order[i]);
+                }
+                x.dueFraction("bestWorth 2", 50, 1);
+            }
+        }
+    }
+
     private static void sure() {
         String sentence = "SURE: ERRANDS (bits) each of which, alone, is done with LIKELY 1.";
         // In time at 5, late by one, STARTS 9, at HOME at MINUTE 0, behind LIGHTS 1.
@@ -412,6 +440,15 @@ final class DayBoundaries {
         all.rowOf(0, 1);
         all.due("sure", 31);
         terms(sentence, "pp50;").due("sure", 0);
+        // Alone, whatever was asked before: after the flat one of the ROW none would be sure.
+        x.due("slope 0 5", 4);
+        x.due("set 2 0", 1);
+        x.rowOf(0, 2);
+        x.dueFraction("likely", 9, 10);
+        x.due("sure", 9);
+        x.rowOf(2, 0);
+        x.dueFraction("likely", 9, 10);
+        x.due("sure", 9);
         // Left out is not done, though it is HOME for certain.
         About flat = terms(sentence, "pp50;pp40;w01010;e10110999;d4;");
         flat.due("sure", 0);
@@ -480,6 +517,11 @@ final class DayBoundaries {
         About little = terms(sentence, "pp50;pb40;w01010;e10100999;e00101999;");
         little.rowOf(0, 1);
         little.due("leftOut", 0);
+        // A ROW that is full.
+        little.rowOf(0, 1, 9, 9, 9, 9, 9, 9, 9, 9);
+        little.due("leftOut", 0);
+        little.rowOf(9, 9, 9, 9, 9, 9, 9, 9, 0, 1);
+        little.due("leftOut", 0);
         // FUEL alone makes it less worth to go.
         About fuel = terms(sentence, "pp50;e00204999;e00205999;f310;d1;");
         fuel.rowOf(1, 0);
@@ -537,6 +579,10 @@ final class DayBoundaries {
         About narrow = terms(sentence, "pp20;pn40;w01010;e10100999;e00110999;");
         narrow.rowOf(0, 1);
         narrow.due("push", 1);
+        // One, not two: 4 for 2 at HOME, 9 for 4 at PLACE 1 (two would make 6 and 10).
+        About one = terms(sentence, "pp10;pn50;w01010;e10100999;e00110999;");
+        one.rowOf(0, 1);
+        one.due("push", 1);
         // A PUSHER's WORTH, whoever drives.
         narrow.due("set 2 1", 0);
         narrow.due("push", 1);
@@ -560,6 +606,23 @@ final class DayBoundaries {
         About only = terms(sentence, "pp30;pp10;w01010;e10110999;e10110999;");
         only.rowOf(0, 1);
         only.dueFraction("hill", 24, 5);
+        // For a PUSHER with none who push as well; with three, PUSHED 6 becomes 10, not 16.
+        About pushed = terms(sentence, "pp00;e00110999;d3;");
+        pushed.rowOf(0);
+        pushed.dueFraction("hill", 10, 1);
+        About three = terms(sentence, "pp03;e00110999;d3;");
+        three.rowOf(0);
+        three.dueFraction("hill", 4, 1);
+        // An ERRAND at HOME, too: 10 + 10 for 6 + 3.6; a SLOPER does not leave it out; a CAREFUL one turns it off.
+        About there = terms(sentence, "pp30;pp50;w01010;e00110999;e10110999;");
+        there.rowOf(0, 1);
+        there.dueFraction("hill", 52, 5);
+        there.due("set 2 4", 0);
+        there.dueFraction("worth", 6, 1);
+        there.dueFraction("hill", 14, 1);
+        there.due("set 2 2", 4);
+        there.dueFraction("worth", 57, 5);
+        there.dueFraction("hill", 43, 5);
         // At a loss: the likelier, the dearer. 0.4 * (1 - 9).
         About loss = terms(sentence, "pp30;pp50;w01010;e10101999;f960;d1;");
         loss.rowOf(0);
@@ -621,6 +684,16 @@ final class DayBoundaries {
         every.due("mend 88 5", 1);
         every.due("mend 89 5", 0);
         every.due("place 1 3", 2);
+        // For a PUSHER with none who push it is the same.
+        every.due("set 2 3", 0);
+        every.due("mend 88 5", 1);
+        every.due("mend 89 5", 0);
+        every.due("mendFrom 89", 6);
+        // Eight PLACES, an ERRAND at the last of them: 0.2 * 10 for the one behind it now.
+        About eight = terms(sentence, "pp50;".repeat(7) + "pp10;w07010;e70100999;e00110999;");
+        eight.rowOf(0, 1);
+        eight.due("mend 8 1", 1);
+        eight.due("mend 9 1", 0);
     }
 
     private static void onFoot() {
@@ -651,6 +724,11 @@ final class DayBoundaries {
         apart.due("onFoot 2 1 1", -9);
         apart.due("onFoot 2 2 0", 2);
         apart.due("onFoot 2 2 1", 0);
+        // The MINUTES of LEGS, not of SAFE: 1 with LIGHTS 9, for 2 with none.
+        About lights = terms(sentence, "pp50;pp40;pp40;w01019;w02010;w21010;");
+        lights.due("onFoot 1 0 1", 10);
+        lights.due("onFoot 0 1 1", 10);
+        lights.due("onFoot 1 1 1", 20);
         // The farthest: twice 420 there and back to each.
         About far = terms(sentence, "pp50;" + "pp40;".repeat(7), "w01600;w12600;w23600;w34600;w45600;w56600;w67600;");
         far.due("onFoot 7 7 0", 0);
@@ -673,6 +751,11 @@ final class DayBoundaries {
         x.due("onTheWay 0 0 4", 0);
         x.due("onTheWay 4 0 4", 0);
         x.due("onTheWay 0 4 4", 0);
+        // LEGS, not SAFE: 1 with LIGHTS 9, for 2 with none.
+        About lights = terms(sentence, "pp50;pp50;pp50;w01019;w02010;w21010;");
+        lights.due("onTheWay 0 0 1", 1);
+        lights.due("onTheWay 1 0 1", 1);
+        lights.due("onTheWay 2 0 1", 0);
         About line = terms(sentence, EIGHT, "w01600;w12600;w23600;w34600;w45600;w56600;w67600;");
         for (int place = 0; place < 8; place++) {
             line.due("onTheWay " + place + " 0 7", 1);
