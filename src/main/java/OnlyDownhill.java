@@ -329,7 +329,7 @@ public final class OnlyDownhill {
         if (here.places == 0) {
             return refuse(STATE);
         }
-        return n * gainIfMended() >= m * CERTAIN ? 1 : 0;
+        return n * gainIfSureUpTo(here.places - 1) >= m * CERTAIN ? 1 : 0;
     }
 
     public int mendFrom(int m) {
@@ -342,7 +342,7 @@ public final class OnlyDownhill {
         if (here.places == 0) {
             return refuse(STATE);
         }
-        long gain = gainIfMended();
+        long gain = gainIfSureUpTo(here.places - 1);
         for (int days = 1; days <= MOST_DAYS; days++) {
             if (days * gain >= m * CERTAIN) {
                 return days;
@@ -644,10 +644,6 @@ public final class OnlyDownhill {
         return trip.gain - before;
     }
 
-    private long gainIfMended() {
-        return gainIfSureUpTo(here.places - 1);
-    }
-
     /** The line's upper or lower side of an amount told in the unit of CERTAIN, whose only primes are 2 and 5. */
     private static long partOf(long amount, int part) {
         long above = amount;
@@ -774,7 +770,7 @@ public final class OnlyDownhill {
         }
 
         int pushedAt(int place) {
-            return pushedWith(place, pushers[place]);
+            return pushedFrom(startsAt(place), pushers[place]);
         }
 
         /** STARTS, were PUSHERS so many. */
@@ -798,9 +794,9 @@ public final class OnlyDownhill {
             }
         }
 
-        /** PUSHED, were PUSHERS so many. */
-        int pushedWith(int place, int helpers) {
-            return Math.min(10, startsWith(place, helpers) + 2 * helpers);
+        /** PUSHED, were STARTS and PUSHERS so many. */
+        static int pushedFrom(int starts, int helpers) {
+            return Math.min(10, starts + 2 * helpers);
         }
 
         int allWorth() {
@@ -1043,7 +1039,7 @@ public final class OnlyDownhill {
 
         void supposePushers(int place, int helpers) {
             starts[place] = town.startsWith(place, helpers);
-            pushed[place] = town.pushedWith(place, helpers);
+            pushed[place] = Town.pushedFrom(starts[place], helpers);
         }
 
         void supposeSureStart(int place) {

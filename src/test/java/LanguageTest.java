@@ -7,13 +7,16 @@ import java.nio.file.Files;
 import java.nio.file.Path;
 import java.util.Arrays;
 import java.util.List;
+import java.util.Map;
 import java.util.Set;
+import java.util.TreeMap;
 import java.util.TreeSet;
 import java.util.regex.Matcher;
 import java.util.regex.Pattern;
 
 /** What LANGUAGE.md rules out, as far as words and the class's own face tell it. */
 public final class LanguageTest {
+    private static final Set<String> LIBRARY = Set.of("length", "charAt", "isEmpty", "indexOf", "min", "max", "arraycopy");
     private static int wrong = 0;
 
     private static void must(boolean holds, String what) {
@@ -29,6 +32,7 @@ public final class LanguageTest {
         lookAtWords(code);
         lookAtFace();
         lookAtMethods(code);
+        lookAtCalls(code);
         System.out.println(wrong == 0 ? "the language is kept" : wrong + " rules are not kept");
         if (wrong != 0) {
             System.exit(1);
@@ -94,6 +98,41 @@ public final class LanguageTest {
         }
         must(face.size() == 32, "the document's face has 32 methods: " + face.size());
         return face;
+    }
+
+    /** What is called, and how deep calls go, a call of the library as one level; methods of one name are taken as one. */
+    private static void lookAtCalls(String code) {
+        Map<String, Set<String>> calls = new TreeMap<>();
+        Matcher method = Pattern.compile("(?ms)^( {4}| {8})\\w[\\w\\[\\] ]* (\\w+)\\([^=;{]*\\) \\{$(.*?)^\\1\\}$").matcher(
+            code.replaceAll("(?m)^    private static final class .*$", ""));
+        while (method.find()) {
+            Set<String> called = calls.computeIfAbsent(method.group(2), name -> new TreeSet<>());
+            Matcher call = Pattern.compile("\\b(\\w+)\\(").matcher(method.group(3));
+            while (call.find()) {
+                called.add(call.group(1));
+            }
+        }
+        must(calls.size() > 60, "the methods are read: " + calls.size());
+        Set<String> foreign = new TreeSet<>();
+        calls.values().forEach(foreign::addAll);
+        foreign.removeAll(calls.keySet());
+        foreign.removeAll(LIBRARY);
+        must(foreign.isEmpty(), "of the library only what the class needs and LANGUAGE.md lists: " + foreign);
+        for (String name : calls.keySet()) {
+            int depth = depthOf(name, calls, 1);
+            must(depth <= 8, "calls go eight deep at most: " + name + " goes " + depth);
+        }
+    }
+
+    /** Recursion would make it deeper than all methods together; it is cut off there. */
+    private static int depthOf(String name, Map<String, Set<String>> calls, int level) {
+        int deepest = level;
+        if (level <= 20) {
+            for (String called : calls.getOrDefault(name, Set.of())) {
+                deepest = Math.max(deepest, depthOf(called, calls, level + 1));
+            }
+        }
+        return deepest;
     }
 
     /** A method's lines, told by where a line with its head's indent closes it. */
